@@ -1,6 +1,12 @@
 /** Counts the answers that are not as due. */
 final class Due {
     private int wrong = 0;
+    private String sentence = "";
+
+    /** The sentence of the document by which the next answers are due; it is told with each wrong one. */
+    void by(String words) {
+        sentence = "[" + words + "] ";
+    }
 
     void is(String call, long got, long want) {
         if (got != want) {
@@ -16,7 +22,7 @@ final class Due {
 
     void tell(String fault) {
         wrong++;
-        System.out.println(fault);
+        System.out.println(sentence + fault);
     }
 
     int wrongs() {
