@@ -7,6 +7,7 @@ public final class EdgePageTest {
         atHandGoesRoundToTheLastPlace();
         noneHasRoom();
         byTurnsGoesRound();
+        byTurnsCountsEachKind();
         byTurnsCountsThoseAlone();
         byTurnsWhereItIsFull();
         emptiestIsTheLeast();
@@ -102,6 +103,22 @@ public final class EdgePageTest {
             for (int p = 0; p < 6; p++) {
                 due.is((nodes + 2) + " nodes, page " + p, x.look(p, 1), p % (nodes + 2));
             }
+        }
+    }
+
+    private static void byTurnsCountsEachKind() {
+        due.by("Terms: 1 BY TURNS: the next one on the next (PAGES of all KINDS)");
+        FarCells x = new FarCells(2, 0, 4);
+        x.rule(1, 0, 1);
+        for (int kind = 0; kind <= 3; kind++) {
+            x.page(kind);
+        }
+        x.page(0);
+        Setup.reader(x, 0, 2, 1, 3, 0, 4);
+        x.run(60);
+        int[] nodes = {3, 1, 0, 2, 0};
+        for (int p = 0; p < 5; p++) {
+            due.is("page " + p, x.look(p, 1), nodes[p]);
         }
     }
 
